@@ -366,9 +366,13 @@ public final class ZoneRelay {
         if (reader.findFlaw(pad) != NONE) {
             return BAD_TEXT;
         }
-        relay.polygons[polygon].becomeLike(reader.found);
+        Polygon changed = relay.polygons[polygon];
+        changed.empty();
+        for (int i = 0; i < reader.corners; i++) {
+            changed.append(reader.xs[i], reader.ys[i]);
+        }
         pad.setLength(0);
-        return reader.found.size;
+        return changed.size;
     }
 
     public int spell(int polygon, int index) {
@@ -952,16 +956,17 @@ public final class ZoneRelay {
 
     /** Reads a polygon's text, character by character, as far as a correct text can begin so. */
     private static final class Reader {
-        final Polygon found = new Polygon();
-        private int x;
+        final int[] xs = new int[MOST_CORNERS];
+        final int[] ys = new int[MOST_CORNERS];
+        int corners;
         private boolean isAtY;
         private boolean isNegative;
         private int digits;
         private int value;
 
-        /** The index of the text's fault, or NONE; without a fault, found is what the text describes. */
+        /** The index of the text's fault, or NONE; without a fault, the corners are those of the text. */
         int findFlaw(StringBuilder text) {
-            found.empty();
+            corners = 0;
             isAtY = false;
             startNumber();
             for (int i = 0; i < text.length(); i++) {
@@ -972,8 +977,58 @@ public final class ZoneRelay {
             if (!isAtY || digits == 0) {
                 return text.length();
             }
-            found.append(x, number());
+            endCorner();
             return NONE;
+        }
+
+        private boolean takes(char sign) {
+            if (sign == '-') {
+                return takesMinus();
+            }
+            if (sign == ',') {
+                return takesComma();
+            }
+            if (sign == '/') {
+                return takesSlash();
+            }
+            return takesDigit(sign - '0');
+        }
+
+        private boolean takesMinus() {
+            if (isNegative || digits > 0) {
+                return false;
+            }
+            isNegative = true;
+            return true;
+        }
+
+        private boolean takesComma() {
+            if (isAtY || digits == 0 || corners >= MOST_CORNERS) {
+                return false;
+            }
+            xs[corners] = number();
+            isAtY = true;
+            startNumber();
+            return true;
+        }
+
+        private boolean takesSlash() {
+            // The corner that ends here is not the last one, so there must be room for one more.
+            if (!isAtY || digits == 0 || corners >= MOST_CORNERS - 1) {
+                return false;
+            }
+            endCorner();
+            return true;
+        }
+
+        private boolean takesDigit(int digit) {
+            boolean isLeadingZero = digits > 0 && value == 0;
+            if (outside(digit, 0, 9) || isLeadingZero || value * 10 + digit > LIMIT) {
+                return false;
+            }
+            value = value * 10 + digit;
+            digits++;
+            return true;
         }
 
         private void startNumber() {
@@ -986,52 +1041,14 @@ public final class ZoneRelay {
             return isNegative ? -value : value;
         }
 
-        private boolean takes(char sign) {
-            switch (sign) {
-                case '-': return takesMinus();
-                case ',': return takesComma();
-                case '/': return takesSlash();
-                default: return takesDigit(sign - '0');
+        private void endCorner() {
+            if (corners >= MOST_CORNERS) {
+                return;
             }
-        }
-
-        private boolean takesMinus() {
-            if (isNegative || digits > 0) {
-                return false;
-            }
-            isNegative = true;
-            return true;
-        }
-
-        private boolean takesComma() {
-            if (isAtY || digits == 0) {
-                return false;
-            }
-            x = number();
-            isAtY = true;
-            startNumber();
-            return true;
-        }
-
-        private boolean takesSlash() {
-            // The corner that ends here is not the last one, so there must be room for one more.
-            if (!isAtY || digits == 0 || found.size >= MOST_CORNERS - 1) {
-                return false;
-            }
-            found.append(x, number());
+            ys[corners] = number();
+            corners++;
             isAtY = false;
             startNumber();
-            return true;
-        }
-
-        private boolean takesDigit(int digit) {
-            boolean isLeadingZero = digits > 0 && value == 0;
-            if (outside(digit, 0, 9) || isLeadingZero || value * 10 + digit > LIMIT) {
-                return false;
-            }
-            value = value * 10 + digit;
-            digits++;
-            return true;
         }
     }
 }

@@ -9,6 +9,7 @@ public final class PolygonTest {
         promise4At();
         promise5Sound();
         promise5Stars();
+        promise5AnyCornerFirst();
         promise6Contains();
         promise6UnsoundContainsNothing();
         promise6LargeNumbers();
@@ -136,6 +137,27 @@ public final class PolygonTest {
         soundness("the same star to the right", 2, 588, -809, -951, 309, 951, 309, -588, -809, 0, 1000);
         soundness("eight corners three times around", 3, 1000, 0, -707, 707, 0, -1000, 707, 707, -1000, 0, 707, -707, 0, 1000, -707, -707);
         soundness("a square twice around", 3, 0, 0, 10, 0, 10, 10, 0, 10, 0, 0, 10, 0, 10, 10, 0, 10);
+    }
+
+    private static void anyCornerFirst(String what, int want, int... xy) {
+        for (int first = 0; first < xy.length; first += 2) {
+            int[] turned = new int[xy.length];
+            for (int i = 0; i < xy.length; i++) {
+                turned[i] = xy[(first + i) % xy.length];
+            }
+            soundness(what + " from its corner " + first / 2, want, turned);
+        }
+    }
+
+    private static void promise5AnyCornerFirst() {
+        anyCornerFirst("a triangle", 0, 0, 0, 10, 3, 0, 10);
+        anyCornerFirst("a triangle with a flat edge", 0, 0, 0, 10, 0, 0, 10);
+        anyCornerFirst("a box", 0, 0, 0, 10, 0, 10, 10, 0, 10);
+        anyCornerFirst("eight corners", 0, 1, 0, 2, 0, 3, 1, 3, 2, 2, 3, 1, 3, 0, 2, 0, 1);
+        anyCornerFirst("a star", 3, 1000, 0, -809, 588, 309, -951, 309, 951, -809, -588);
+        anyCornerFirst("a star with a flat edge", 3, 0, 1000, -588, -809, 951, 309, -951, 309, 588, -809);
+        anyCornerFirst("a dent", 2, 0, 0, 10, 0, 10, 10, 5, 5, 0, 10);
+        anyCornerFirst("a corner in an edge", 2, 0, 0, 5, 0, 10, 0, 0, 10);
     }
 
     private static void contained(ZoneRelay relay, int want, int x, int y) {

@@ -8,6 +8,7 @@ public final class SampleTest {
         promise15Pass();
         promise15SmallStepsAndLargeOnes();
         promise16Estimates();
+        promise16EachSample();
         promise16Memory();
         promise16Impedance();
         promise16Minimum();
@@ -18,6 +19,7 @@ public final class SampleTest {
         promise17State();
         promise17ExactEdges();
         promise17Directions();
+        promise17TheLeastNumbers();
         promise17TheMemoryWearsOut();
         promise17Blocks();
         promise18Tripped();
@@ -96,6 +98,34 @@ public final class SampleTest {
         estimates("the greatest", relay, -19996, 19996, 19996, 19996);
     }
 
+    /** c(0) to c(23), with s(k) = c((k + 18) % 24). */
+    private static int c(int k) {
+        int[] first = {4096, 3956, 3547, 2896, 2048, 1060, 0};
+        int low = k > 12 ? 24 - k : k;
+        return low > 6 ? -first[12 - low] : first[low];
+    }
+
+    private static void promise16EachSample() {
+        for (int turn = 0; turn < 24; turn++) {
+            ZoneRelay relay = new ZoneRelay();
+            int a = 19999 * c(turn) / 4096;
+            int b = 19998 * c((turn + 5) % 24) / 4096;
+            relay.apply(a, b, b, -a);
+            long[] sums = new long[4];
+            for (int t = 0; t < 24; t++) {
+                int s = c((t + 18) % 24);
+                long v = (a * c(t) - b * s) / 4096;
+                long i = (b * c(t) + a * s) / 4096;
+                sums[0] += v * c(t);
+                sums[1] += -v * s;
+                sums[2] += i * c(t);
+                sums[3] += -i * s;
+                relay.pass(1);
+                estimates("turn " + turn + ", sample " + t, relay, sums[0] / 49152, sums[1] / 49152, sums[2] / 49152, sums[3] / 49152);
+            }
+        }
+    }
+
     private static void promise16Memory() {
         ZoneRelay relay = new ZoneRelay();
         relay.apply(3000, -4000, 0, 0);
@@ -121,6 +151,12 @@ public final class SampleTest {
         due.is("4095 is at least 4095", 0, relay.measure(6));
         due.is("a new memory", 4095, relay.measure(4));
         due.is("a new memory", 0, relay.measure(5));
+        relay.apply(0, -4096, 0, 0);
+        relay.pass(24);
+        due.is("the second number counts as the first", 0, relay.measure(6));
+        relay.set(ZoneRelay.MEMORY_LEVEL, 4096);
+        relay.pass(1);
+        due.is("up to its size", 1, relay.measure(6));
         ZoneRelay idle = new ZoneRelay();
         idle.pass(5);
         due.is("without a voltage the age grows", 5, idle.measure(6));
@@ -302,6 +338,7 @@ public final class SampleTest {
         relay.set(ZoneRelay.LOAD_FROM, 2000);
         relay.pass(1);
         due.is("far enough", 1, relay.measure(12));
+        exactSlope(relay);
         relay.apply(4096, 0, 4096, 0);
         relay.pass(24);
         relay.set(ZoneRelay.LOAD_FROM, 1000);
@@ -316,6 +353,21 @@ public final class SampleTest {
         relay.set(ZoneRelay.LOAD_FROM, 0);
         relay.pass(1);
         due.is("the point (0, 0)", 1, relay.measure(12));
+    }
+
+    /** |X| * 1000 is compared with LOAD_SLOPE * |R| as it is: where both are the same, the point is in. */
+    private static void exactSlope(ZoneRelay relay) {
+        relay.set(ZoneRelay.LOAD_FROM, 0);
+        relay.apply(4096, 4096, 4096, 0);
+        relay.pass(24);
+        due.is("va is vb", relay.measure(0), relay.measure(1));
+        relay.set(ZoneRelay.LOAD_SLOPE, 1000);
+        relay.pass(1);
+        due.is("X is R, and the slope 1", 1, relay.measure(12));
+        relay.set(ZoneRelay.LOAD_SLOPE, 999);
+        relay.pass(1);
+        due.is("X is R, and the slope less than 1", 0, relay.measure(12));
+        relay.set(ZoneRelay.LOAD_SLOPE, 10000);
     }
 
     private static void promise17State() {
@@ -442,6 +494,23 @@ public final class SampleTest {
         picked("the greatest numbers", relay, 1, 0, 1);
     }
 
+    private static void promise17TheLeastNumbers() {
+        ZoneRelay relay = directed();
+        relay.set(ZoneRelay.MINIMUM, 1);
+        relay.set(ZoneRelay.MEMORY_LEVEL, 0);
+        relay.network(2, 1, 0);
+        relay.apply(2, 0, 2, 0);
+        relay.pass(24);
+        due.is("va", 1, relay.measure(0));
+        due.is("ia", 1, relay.measure(2));
+        due.is("R of 1 by 1", 1000, relay.measure(8));
+        picked("F is 1", relay, 1, 0, 1);
+        relay.apply(-2, 0, 2, 0);
+        relay.pass(24);
+        due.is("va", -1, relay.measure(0));
+        picked("F is -1", relay, 0, 1, 1);
+    }
+
     private static void promise17TheMemoryWearsOut() {
         ZoneRelay relay = directed();
         relay.set(ZoneRelay.MEMORY_LEVEL, 4095);
@@ -462,6 +531,13 @@ public final class SampleTest {
         relay.set(ZoneRelay.MEMORY_HOLD, 0);
         relay.pass(24);
         picked("no voltage and no memory", relay, 0, 0, 1);
+        relay.network(2, 0, 3000);
+        relay.apply(1000, 2000, 4096, 0);
+        relay.pass(24);
+        picked("the estimate's second number", relay, 1, 0, 1);
+        relay.apply(1000, -2000, 4096, 0);
+        relay.pass(24);
+        picked("and against it", relay, 0, 1, 1);
     }
 
     private static void promise17Blocks() {

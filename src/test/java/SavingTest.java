@@ -8,6 +8,7 @@ public final class SavingTest {
         promise31Overwrites();
         promise32Restore();
         promise32EverythingComesBack();
+        promise32NoImpedance();
         promise32SlotsAndPad();
         due.finish();
     }
@@ -152,7 +153,37 @@ public final class SavingTest {
             relay.pass(7);
             relay.apply(0, 0, i % 2 * 7777, 0);
         }
+        fillLog(relay);
         relay.ramp(99, 1, 2, 3, 4);
+    }
+
+    private static void fillLog(ZoneRelay relay) {
+        Shapes.box(relay, 1, -20000, -20000, 20000, 20000);
+        relay.zone(1, 2400, ZoneRelay.BOTH);
+        relay.set(ZoneRelay.SWING_ZONES, 0);
+        relay.set(ZoneRelay.LOAD_ZONES, 0);
+        relay.apply(100, 0, 4096, 0);
+        relay.pass(24);
+        for (int i = 0; i < 70; i++) {
+            relay.set(ZoneRelay.MINIMUM, i % 2 == 0 ? 20000 : 1);
+            relay.pass(1);
+        }
+        due.holds("each event is another one", relay.event(relay.count(1) - 60, 0) >= 0);
+    }
+
+    private static void promise32NoImpedance() {
+        ZoneRelay relay = new ZoneRelay();
+        relay.pass(1);
+        relay.save(0);
+        relay.apply(4096, 0, 4096, 0);
+        relay.pass(24);
+        relay.save(1);
+        relay.restore(0);
+        due.is("none was there", 0, relay.measure(7));
+        due.is("no R", ZoneRelay.GONE + ZoneRelay.NONE, relay.measure(8));
+        relay.restore(1);
+        due.is("one was there", 1, relay.measure(7));
+        due.is("its R", 1000, relay.measure(8));
     }
 
     private static void promise32SlotsAndPad() {

@@ -9,6 +9,7 @@ public final class SignalTest {
         promise10Errors();
         promise11Network();
         promise12Fault();
+        promise12Places();
         promise12Limits();
         promise12Errors();
         promise13Healthy();
@@ -162,6 +163,25 @@ public final class SignalTest {
         relay.network(2, 3, 0);
         relay.fault(500, 9999);
         phasors("R = X = 10000", relay, 5000, -5000, 500, -500);
+    }
+
+    private static void promise12Places() {
+        for (int place = 0; place <= 1000; place++) {
+            ZoneRelay alongR = new ZoneRelay();
+            alongR.network(0, 20000, 0);
+            alongR.network(1, 1000, 0);
+            alongR.network(2, 19999, 0);
+            alongR.fault(place, 3);
+            int current = 20000000 / (1000 + 19999 * place / 1000 + 3);
+            phasors("R at " + place, alongR, 20000 - current * 1000 / 1000, 0, current, 0);
+            ZoneRelay alongX = new ZoneRelay();
+            alongX.network(0, 20000, 0);
+            alongX.network(1, 0, 1000);
+            alongX.network(2, 0, 19999);
+            alongX.fault(place, 0);
+            current = 20000000 / (1000 + 19999 * place / 1000);
+            phasors("X at " + place, alongX, 20000 - current * 1000 / 1000, 0, 0, -current);
+        }
     }
 
     private static void promise12Limits() {

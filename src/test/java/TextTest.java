@@ -192,5 +192,7 @@ public final class TextTest {
         due.is("spell(0, greatest int)", NONE, relay.spell(0, Integer.MAX_VALUE));
         due.is("spell(1, 0)", NONE, relay.spell(1, 0));
         due.is("spell(0, 1)", ',', relay.spell(0, 1));
+        relay.corner(4, 7, 8);
+        due.is("spell(4, 2)", '8', relay.spell(4, 2));
     }
 }
