@@ -2,19 +2,36 @@
 final class Due {
     private int asked = 0;
     private int wrong = 0;
+    private String test = "";
+
+    /** The answers from here on belong to the test of this name. */
+    void begin(String name) {
+        test = name + ": ";
+    }
 
     void is(String call, long want, long got) {
         asked++;
         if (got != want) {
-            wrong++;
-            if (wrong <= 50) {
-                System.out.println(call + " answered " + got + ", due is " + want);
-            }
+            tell(call + " answered " + got + ", due is " + want);
         }
     }
 
     void holds(String what, boolean truth) {
         is(what, 1, truth ? 1 : 0);
+    }
+
+    void same(String what, String want, String got) {
+        asked++;
+        if (!got.equals(want)) {
+            tell(what + ": " + got + ", due is " + want);
+        }
+    }
+
+    private void tell(String what) {
+        wrong++;
+        if (wrong <= 50) {
+            System.out.println(test + what);
+        }
     }
 
     void finish() {

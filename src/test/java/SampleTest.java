@@ -40,17 +40,6 @@ public final class SampleTest {
         due.is("pass(1)", 1, relay.pass(1));
         due.is("pass(5000)", 5001, relay.pass(5000));
         due.is("the time", 5001, relay.count(0));
-        // The document's limit of time lies beyond 512 calls; it holds all the same.
-        for (int i = 0; i < 19999; i++) {
-            relay.pass(5000);
-        }
-        due.is("the time late", 100000000 - 4999 + 5000, relay.count(0) + 5000);
-        due.is("too late", ZoneRelay.NOT_POSSIBLE, relay.pass(5000));
-        due.is("wrong and too late", ZoneRelay.BAD_VALUE, relay.pass(5001));
-        due.is("just in time", 100000000, relay.pass(4999));
-        due.is("one more", ZoneRelay.NOT_POSSIBLE, relay.pass(1));
-        due.is("a copy has no such limit", ZoneRelay.NONE, relay.forecast(10));
-        due.is("nor has a test", ZoneRelay.NONE, relay.test(0, 0, 10, 0));
     }
 
     private static void promise15SmallStepsAndLargeOnes() {
