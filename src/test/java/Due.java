@@ -27,6 +27,22 @@ final class Due {
         }
     }
 
+    /** The phasors of a relay are these now. */
+    void phasors(String what, ZoneRelay relay, long... want) {
+        String[] names = {"va", "vb", "ia", "ib"};
+        for (int i = 0; i < 4; i++) {
+            is(what + ": " + names[i], want[i], relay.phasor(i));
+        }
+    }
+
+    /** The estimates of a relay's latest sample are these. */
+    void estimates(String what, ZoneRelay relay, long... want) {
+        String[] names = {"va", "vb", "ia", "ib"};
+        for (int i = 0; i < 4; i++) {
+            is(what + ": " + names[i], want[i], relay.measure(i));
+        }
+    }
+
     private void tell(String what) {
         wrong++;
         if (wrong <= 50) {

@@ -28,18 +28,11 @@ public final class EstimateEdgesTest {
         edges.finish("ESTIMATES", "A SAMPLE");
     }
 
-    private static void estimates(String what, ZoneRelay relay, long va, long vb, long ia, long ib) {
-        due.is(what + ": va", va, relay.measure(0));
-        due.is(what + ": vb", vb, relay.measure(1));
-        due.is(what + ": ia", ia, relay.measure(2));
-        due.is(what + ": ib", ib, relay.measure(3));
-    }
-
     /** A relay with these estimates. */
     private static ZoneRelay standing(int va, int vb, int ia, int ib) {
         ZoneRelay relay = new ZoneRelay();
         Wave.stand(relay, va, vb, ia, ib);
-        estimates("standing", relay, va, vb, ia, ib);
+        due.estimates("standing", relay, va, vb, ia, ib);
         return relay;
     }
 
@@ -57,7 +50,7 @@ public final class EstimateEdgesTest {
                 relay.pass(1);
                 long[] voltage = Wave.estimates(0, v);
                 long[] current = Wave.estimates(0, i);
-                estimates((time + 1) + " samples", relay, voltage[0], voltage[1], current[0], current[1]);
+                due.estimates((time + 1) + " samples", relay, voltage[0], voltage[1], current[0], current[1]);
             }
         });
         edges.test("ESTIMATES: the sample 23 back counts, the sample 24 back does not", () -> {
@@ -73,9 +66,9 @@ public final class EstimateEdgesTest {
                 due.holds("it can be seen", v[0] != 0 || v[1] != 0);
                 relay.apply(0, 0, 0, 0);
                 relay.pass(23);
-                estimates("23 later than " + time, relay, v[0], v[1], i[0], i[1]);
+                due.estimates("23 later than " + time, relay, v[0], v[1], i[0], i[1]);
                 relay.pass(1);
-                estimates("24 later than " + time, relay, 0, 0, 0, 0);
+                due.estimates("24 later than " + time, relay, 0, 0, 0, 0);
             }
         });
         edges.test("ESTIMATES: over the ends of cycles, with another phasor in each sample", () -> {
@@ -92,7 +85,7 @@ public final class EstimateEdgesTest {
                 int from = Math.max(0, time - 23);
                 long[] voltage = Wave.estimates(from, Arrays.copyOfRange(v, from, time + 1));
                 long[] current = Wave.estimates(from, Arrays.copyOfRange(i, from, time + 1));
-                estimates("at " + time, relay, voltage[0], voltage[1], current[0], current[1]);
+                due.estimates("at " + time, relay, voltage[0], voltage[1], current[0], current[1]);
             }
         });
     }
@@ -107,23 +100,23 @@ public final class EstimateEdgesTest {
             due.holds("the terms would give less: " + ofTerms, ofTerms < 4095);
             relay.apply(4096, 0, 0, -4096);
             relay.pass(24);
-            estimates("a cycle", relay, 4095, 0, 0, -4095);
+            due.estimates("a cycle", relay, 4095, 0, 0, -4095);
         });
         edges.test("ESTIMATES: truncated toward 0, above 0 and below it", () -> {
             ZoneRelay relay = new ZoneRelay();
             relay.apply(4096, 0, -4096, 0);
             relay.pass(2);
             // (4096 * 4096 + 3956 * 3956) / 49152 = 659.7, and 3956 * -1060 / 49152 = -85.3
-            estimates("two samples", relay, 659, -85, -659, 85);
+            due.estimates("two samples", relay, 659, -85, -659, 85);
         });
         edges.test("ESTIMATES: less than 1 is 0, above 0 and below it", () -> {
             ZoneRelay relay = new ZoneRelay();
             relay.apply(1, -1, -1, 1);
             relay.pass(24);
-            estimates("a cycle", relay, 0, 0, 0, 0);
+            due.estimates("a cycle", relay, 0, 0, 0, 0);
             relay.apply(2, -2, -2, 2);
             relay.pass(24);
-            estimates("a cycle of twice as much", relay, 1, -1, -1, 1);
+            due.estimates("a cycle of twice as much", relay, 1, -1, -1, 1);
         });
     }
 
@@ -211,18 +204,18 @@ public final class EstimateEdgesTest {
             ZoneRelay relay = new ZoneRelay();
             relay.ramp(1, 4096, 0, 8192, 0);
             relay.pass(1);
-            estimates("the only sample of a ramp", relay, 341, 0, 682, 0);
+            due.estimates("the only sample of a ramp", relay, 341, 0, 682, 0);
             ZoneRelay longer = new ZoneRelay();
             longer.ramp(2, 8192, 0, 0, 0);
             longer.pass(1);
-            estimates("the first of two", longer, 341, 0, 0, 0);
+            due.estimates("the first of two", longer, 341, 0, 0, 0);
         });
         edges.test("A SAMPLE: 1. the first sample is at the time 0", () -> {
             ZoneRelay relay = new ZoneRelay();
             relay.apply(0, 20000, 20000, 0);
             relay.pass(1);
             // s(0) is 0 and c(0) is 4096
-            estimates("at the time 0", relay, 0, 0, 1666, 0);
+            due.estimates("at the time 0", relay, 0, 0, 1666, 0);
         });
     }
 

@@ -342,37 +342,57 @@ public final class SampleEdgesTest {
         });
     }
 
-    /** This limit lies beyond the 512 calls of an object; it holds all the same. */
-    private static void passTooLate() {
-        edges.test("15: NOT_POSSIBLE if the time would be greater than 100000000, and BAD_VALUE before that", () -> {
-            ZoneRelay relay = new ZoneRelay();
-            for (int i = 0; i < 19999; i++) {
-                relay.pass(5000);
-            }
-            due.is("up to 99999999", 99999999, relay.pass(4999));
-            String before = Shapes.everything(relay);
-            due.is("one too many", ZoneRelay.NOT_POSSIBLE, relay.pass(2));
-            due.is("many too many", ZoneRelay.NOT_POSSIBLE, relay.pass(5000));
-            due.is("a wrong number", ZoneRelay.BAD_VALUE, relay.pass(5001));
-            due.is("no number", ZoneRelay.BAD_VALUE, relay.pass(0));
-            due.same("nothing changes", before, Shapes.everything(relay));
-            inCopies(relay);
-            due.is("just to 100000000", 100000000, relay.pass(1));
-            due.is("one more", ZoneRelay.NOT_POSSIBLE, relay.pass(1));
-            due.is("a wrong number", ZoneRelay.BAD_VALUE, relay.pass(-1));
-            due.is("the time", 100000000, relay.count(0));
-            inCopies(relay);
-        });
+    /** A relay at the time 99999999, which its slot 0 has, too: that is beyond the 512 calls of an object, and holds all the same. */
+    private static ZoneRelay late() {
+        ZoneRelay relay = new ZoneRelay();
+        for (int i = 0; i < 19999; i++) {
+            relay.pass(5000);
+        }
+        due.is("up to 99999999", 99999999, relay.pass(4999));
+        relay.save(0);
+        return relay;
     }
 
-    private static void inCopies(ZoneRelay relay) {
-        around(relay, 0);
-        relay.zone(0, 60, BOTH);
-        relay.fault(500, 0);
-        Shapes.box(relay, 0, -20000, -20000, 20000, 20000);
-        due.holds("in a forecast the time is not limited", relay.forecast(5000) > 1);
-        due.is("in a test neither", 0, relay.test(500, 0, 2400, 1));
-        relay.clear(0);
+    private static void passTooLate() {
+        ZoneRelay late = late();
+        edges.test("15: NOT_POSSIBLE if the time would be greater than 100000000, and BAD_VALUE before that", () -> {
+            String before = Busy.now(late);
+            due.is("one too many", ZoneRelay.NOT_POSSIBLE, late.pass(2));
+            due.is("many too many", ZoneRelay.NOT_POSSIBLE, late.pass(5000));
+            due.is("a wrong number", ZoneRelay.BAD_VALUE, late.pass(5001));
+            due.is("no number", ZoneRelay.BAD_VALUE, late.pass(0));
+            due.same("nothing changes", before, Busy.now(late));
+            due.is("just to 100000000", 100000000, late.pass(1));
+            due.is("one more", ZoneRelay.NOT_POSSIBLE, late.pass(1));
+            due.is("a wrong number", ZoneRelay.BAD_VALUE, late.pass(-1));
+            due.is("the time", 100000000, late.count(0));
+        });
+        // The time 15 is at the same place of its cycle as 99999999.
+        ZoneRelay early = new ZoneRelay();
+        early.pass(15);
+        early.save(0);
+        edges.test("23: in a copy the time is not limited", () -> {
+            for (ZoneRelay relay : new ZoneRelay[] {early, late}) {
+                relay.restore(0);
+                relay.zone(0, 60, BOTH);
+                Shapes.box(relay, 0, -2000, -2000, 2000, 4000);
+            }
+            due.holds("it trips", early.test(500, 0, 2400, 0) > 0);
+            due.is("number", early.test(500, 0, 2400, 0), late.test(500, 0, 2400, 0));
+            due.is("zone", 0, late.test(500, 0, 2400, 1));
+            due.is("the time stays", 99999999, late.count(0));
+        });
+        edges.test("24: in a copy the time is not limited", () -> {
+            for (ZoneRelay relay : new ZoneRelay[] {early, late}) {
+                relay.restore(0);
+                relay.zone(0, 60, BOTH);
+                Shapes.box(relay, 0, -2000, -2000, 2000, 4000);
+                relay.fault(500, 0);
+            }
+            due.holds("it trips", early.forecast(5000) > 0);
+            due.is("number", early.forecast(5000), late.forecast(5000));
+            due.is("the time stays", 99999999, late.count(0));
+        });
     }
 
     private static void measure() {

@@ -56,13 +56,6 @@ public final class SampleTest {
         due.holds("a hundred samples are a hundred samples", Shapes.everything(small).equals(Shapes.everything(large)));
     }
 
-    private static void estimates(String what, ZoneRelay relay, long va, long vb, long ia, long ib) {
-        due.is(what + ": va", va, relay.measure(0));
-        due.is(what + ": vb", vb, relay.measure(1));
-        due.is(what + ": ia", ia, relay.measure(2));
-        due.is(what + ": ib", ib, relay.measure(3));
-    }
-
     private static void promise16Estimates() {
         ZoneRelay relay = new ZoneRelay();
         due.is("measure(-1)", BAD_NUMBER, relay.measure(-1));
@@ -70,21 +63,21 @@ public final class SampleTest {
         relay.apply(4096, 0, 0, 4096);
         relay.pass(1);
         // x(0) = 4096 * 4096 / 4096, and 4096 * 4096 / 49152; of ib the first sample is 0
-        estimates("a sample", relay, 341, 0, 0, 0);
+        due.estimates("a sample", relay, 341, 0, 0, 0);
         relay.pass(1);
         // x(1) = 3956 and -1060: (4096 * 4096 + 3956 * 3956) / 49152, -3956 * 1060 / 49152, -1060 * 3956 / 49152, 1060 * 1060 / 49152
-        estimates("two samples", relay, 659, -85, -85, 22);
+        due.estimates("two samples", relay, 659, -85, -85, 22);
         relay.pass(22);
-        estimates("a cycle", relay, 4095, 0, 0, 4095);
+        due.estimates("a cycle", relay, 4095, 0, 0, 4095);
         relay.apply(0, 0, 0, 0);
         relay.pass(23);
         // the sample at the time 23 is the last one that is not 0: 3956 * 3956 / 49152 and 3956 * 1060 / 49152
-        estimates("all but one gone", relay, 318, 85, 85, 22);
+        due.estimates("all but one gone", relay, 318, 85, 85, 22);
         relay.pass(1);
-        estimates("all gone", relay, 0, 0, 0, 0);
+        due.estimates("all gone", relay, 0, 0, 0, 0);
         relay.apply(-20000, 20000, 20000, 20000);
         relay.pass(24);
-        estimates("the greatest", relay, -19996, 19996, 19996, 19996);
+        due.estimates("the greatest", relay, -19996, 19996, 19996, 19996);
     }
 
     /** c(0) to c(23), with s(k) = c((k + 18) % 24). */
@@ -110,7 +103,7 @@ public final class SampleTest {
                 sums[2] += i * c(t);
                 sums[3] += -i * s;
                 relay.pass(1);
-                estimates("turn " + turn + ", sample " + t, relay, sums[0] / 49152, sums[1] / 49152, sums[2] / 49152, sums[3] / 49152);
+                due.estimates("turn " + turn + ", sample " + t, relay, sums[0] / 49152, sums[1] / 49152, sums[2] / 49152, sums[3] / 49152);
             }
         }
     }

@@ -261,29 +261,31 @@ public final class SavingEdgesTest {
                 due.same("from " + time + " on", later, Busy.now(relay));
             }
         });
-        edges.test("32: a full log is restored, at any place of it", () -> {
+        edges.test("32: a full log is restored, its times and its kinds", () -> {
             ZoneRelay relay = new ZoneRelay();
             relay.zone(1, 2400, ZoneRelay.BOTH);
+            relay.zone(2, 2400, ZoneRelay.BOTH);
             Wave.stand(relay, 1000, 0, 1000, 0);
-            Shapes.box(relay, 1, -2000, -2000, 2000, 2000);
-            makeEvents(relay, 61);
+            makeEvents(relay, 1, 61);
             relay.save(0);
-            makeEvents(relay, 64);
+            relay.clear(1);
+            makeEvents(relay, 2, 64);
             relay.restore(0);
             due.is("events", 61, relay.count(1));
             due.is("the first is not kept", ZoneRelay.NONE, relay.event(0, 0));
-            due.is("the second: time", 25, relay.event(1, 0));
-            due.is("the second: kind", 21, relay.event(1, 1));
-            due.is("the last: time", 84, relay.event(60, 0));
-            due.is("the last: kind", 11, relay.event(60, 1));
-            due.is("none after it", ZoneRelay.NONE, relay.event(61, 0));
+            for (int event = 1; event <= 60; event++) {
+                due.is("time of " + event, 24 + event, relay.event(event, 0));
+                due.is("kind of " + event, event % 2 == 0 ? 11 : 21, relay.event(event, 1));
+            }
+            due.is("none after them", ZoneRelay.NONE, relay.event(61, 0));
         });
     }
 
-    /** Each sample makes one event: the zone 1 is picked up, and is not any more. */
-    private static void makeEvents(ZoneRelay relay, int events) {
+    /** Each sample makes one event: the zone is picked up, and is not any more. */
+    private static void makeEvents(ZoneRelay relay, int zone, int events) {
+        Shapes.box(relay, zone, -2000, -2000, 2000, 2000);
         for (int i = 0; i < events; i++) {
-            relay.set(ZoneRelay.MINIMUM, relay.state(1, 0) == 0 ? 1000 : 1001);
+            relay.set(ZoneRelay.MINIMUM, i % 2 == 0 ? 1000 : 1001);
             relay.pass(1);
         }
     }

@@ -90,27 +90,8 @@ public final class SavingTest {
         due.is("restore(0) again", 5, relay.restore(0));
     }
 
-    /** A relay with something of each kind in it: a ramp, a swing, a memory, events, a trip. */
-    private static ZoneRelay busy() {
-        ZoneRelay relay = new ZoneRelay();
-        Shapes.box(relay, 0, -900, -900, 900, 900);
-        Shapes.box(relay, 2, -2000, -2000, 2000, 2000);
-        Shapes.box(relay, ZoneRelay.INNER, -1500, -1500, 1500, 1500);
-        Shapes.box(relay, ZoneRelay.OUTER, -4000, -4000, 4000, 4000);
-        relay.zone(2, 30, ZoneRelay.BOTH);
-        relay.set(ZoneRelay.SWING_TIME, 2);
-        relay.set(ZoneRelay.SWING_ZONES, 1);
-        relay.set(ZoneRelay.LOAD_FROM, 100);
-        relay.network(2, 600, 2900);
-        relay.apply(8192, 0, 4096, 0);
-        relay.pass(30);
-        relay.ramp(60, 500, 300, 4096, -100);
-        relay.pass(49);
-        return relay;
-    }
-
     private static void promise32EverythingComesBack() {
-        ZoneRelay relay = busy();
+        ZoneRelay relay = Busy.relay();
         due.is("there is a swing", 1, relay.measure(11));
         due.is("it is tripped", 2, relay.tripped());
         due.is("a ramp is left", 11, relay.phasor(4));

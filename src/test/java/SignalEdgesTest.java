@@ -21,20 +21,6 @@ public final class SignalEdgesTest {
         edges.finish("SIGNALS", "THE NETWORK", "9", "10", "11", "12", "13", "14");
     }
 
-    private static void phasors(String what, ZoneRelay relay, long va, long vb, long ia, long ib) {
-        due.is(what + ": va", va, relay.phasor(0));
-        due.is(what + ": vb", vb, relay.phasor(1));
-        due.is(what + ": ia", ia, relay.phasor(2));
-        due.is(what + ": ib", ib, relay.phasor(3));
-    }
-
-    private static void estimates(String what, ZoneRelay relay, long va, long vb, long ia, long ib) {
-        due.is(what + ": va", va, relay.measure(0));
-        due.is(what + ": vb", vb, relay.measure(1));
-        due.is(what + ": ia", ia, relay.measure(2));
-        due.is(what + ": ib", ib, relay.measure(3));
-    }
-
     // ---- SIGNALS
 
     private static void samples() {
@@ -48,7 +34,7 @@ public final class SignalEdgesTest {
                 relay.pass(1);
                 long[] v = Wave.estimates(time, Wave.sample(20000, -3000, time));
                 long[] i = Wave.estimates(time, Wave.sample(40, 19999, time));
-                estimates("the sample at " + time, relay, v[0], v[1], i[0], i[1]);
+                due.estimates("the sample at " + time, relay, v[0], v[1], i[0], i[1]);
             }
         });
         edges.test("SIGNALS: c(6) and c(18) are 0, and so are s(0) and s(12)", () -> {
@@ -60,7 +46,7 @@ public final class SignalEdgesTest {
                 }
                 relay.apply(isCosine ? 20000 : 0, isCosine ? 0 : 20000, 0, 0);
                 relay.pass(1);
-                estimates("the sample at " + time, relay, 0, 0, 0, 0);
+                due.estimates("the sample at " + time, relay, 0, 0, 0, 0);
             }
         });
         edges.test("SIGNALS: a sample is truncated toward 0, above 0 and below it", () -> {
@@ -68,19 +54,19 @@ public final class SignalEdgesTest {
             // Rounded down on either side, vb would be 3999 or -3999.
             relay.apply(3000, 4000, -3000, -4000);
             relay.pass(24);
-            estimates("a cycle", relay, 2999, 3998, -2999, -3998);
+            due.estimates("a cycle", relay, 2999, 3998, -2999, -3998);
         });
         edges.test("SIGNALS: both phasors are (0, 0) at first", () -> {
             ZoneRelay relay = new ZoneRelay();
-            phasors("at first", relay, 0, 0, 0, 0);
+            due.phasors("at first", relay, 0, 0, 0, 0);
             relay.pass(30);
-            estimates("in samples", relay, 0, 0, 0, 0);
+            due.estimates("in samples", relay, 0, 0, 0, 0);
         });
         edges.test("SIGNALS: samples of the least and the greatest phasors", () -> {
             ZoneRelay relay = new ZoneRelay();
             relay.apply(-20000, 20000, 20000, -20000);
             relay.pass(24);
-            estimates("a cycle", relay, -19996, 19996, 19996, -19996);
+            due.estimates("a cycle", relay, -19996, 19996, 19996, -19996);
         });
     }
 
@@ -90,19 +76,19 @@ public final class SignalEdgesTest {
             relay.apply(0, 0, -5, 5);
             relay.ramp(3, -10, 10, 5, -5);
             relay.pass(1);
-            phasors("1 of 3", relay, -3, 3, -2, 2);
+            due.phasors("1 of 3", relay, -3, 3, -2, 2);
             relay.pass(1);
-            phasors("2 of 3", relay, -6, 6, 1, -1);
+            due.phasors("2 of 3", relay, -6, 6, 1, -1);
             relay.pass(1);
-            phasors("3 of 3", relay, -10, 10, 5, -5);
+            due.phasors("3 of 3", relay, -10, 10, 5, -5);
         });
         edges.test("SIGNALS: a ramp of one sample is at its target with the first", () -> {
             ZoneRelay relay = new ZoneRelay();
             relay.ramp(1, 4096, -7, 20000, -20000);
-            phasors("before it", relay, 0, 0, 0, 0);
+            due.phasors("before it", relay, 0, 0, 0, 0);
             due.is("left", 1, relay.phasor(4));
             relay.pass(1);
-            phasors("with it", relay, 4096, -7, 20000, -20000);
+            due.phasors("with it", relay, 4096, -7, 20000, -20000);
             due.is("left then", 0, relay.phasor(4));
         });
         edges.test("SIGNALS: the greatest ramp, for its i-th sample from 1 to 2400", () -> {
@@ -110,26 +96,26 @@ public final class SignalEdgesTest {
             relay.apply(-20000, 20000, -20000, 0);
             relay.ramp(2400, 20000, -20000, -20000, 1);
             relay.pass(1);
-            phasors("the first", relay, -19984, 19984, -20000, 0);
+            due.phasors("the first", relay, -19984, 19984, -20000, 0);
             relay.pass(1199);
-            phasors("the middle", relay, 0, 0, -20000, 0);
+            due.phasors("the middle", relay, 0, 0, -20000, 0);
             relay.pass(1199);
-            phasors("the last but one", relay, 19983, -19983, -20000, 0);
+            due.phasors("the last but one", relay, 19983, -19983, -20000, 0);
             due.is("left", 1, relay.phasor(4));
             relay.pass(1);
-            phasors("the last", relay, 20000, -20000, -20000, 1);
+            due.phasors("the last", relay, 20000, -20000, -20000, 1);
             due.is("left then", 0, relay.phasor(4));
         });
         edges.test("SIGNALS: after its last sample a ramp has none left, and the phasors stay", () -> {
             ZoneRelay relay = new ZoneRelay();
             relay.ramp(2, 10, 20, 30, 40);
             relay.pass(2);
-            phasors("with its last", relay, 10, 20, 30, 40);
+            due.phasors("with its last", relay, 10, 20, 30, 40);
             relay.pass(1);
-            phasors("one after it", relay, 10, 20, 30, 40);
+            due.phasors("one after it", relay, 10, 20, 30, 40);
             due.is("left", 0, relay.phasor(4));
             relay.pass(5000);
-            phasors("long after it", relay, 10, 20, 30, 40);
+            due.phasors("long after it", relay, 10, 20, 30, 40);
             due.is("left", 0, relay.phasor(4));
         });
         edges.test("SIGNALS: a ramp leads from the phasors that there were at its beginning, though on a ramp", () -> {
@@ -137,12 +123,12 @@ public final class SignalEdgesTest {
             relay.ramp(4, 100, -100, 0, 8);
             relay.pass(3);
             relay.ramp(2, 5, 5, 5, 5);
-            phasors("at its beginning", relay, 75, -75, 0, 6);
+            due.phasors("at its beginning", relay, 75, -75, 0, 6);
             due.is("left", 2, relay.phasor(4));
             relay.pass(1);
-            phasors("1 of 2", relay, 40, -35, 2, 6);
+            due.phasors("1 of 2", relay, 40, -35, 2, 6);
             relay.pass(1);
-            phasors("2 of 2", relay, 5, 5, 5, 5);
+            due.phasors("2 of 2", relay, 5, 5, 5, 5);
         });
     }
 
@@ -160,7 +146,7 @@ public final class SignalEdgesTest {
             due.is("left", 0, relay.phasor(4));
             long[] before = {relay.phasor(0), relay.phasor(1), relay.phasor(2), relay.phasor(3)};
             relay.pass(1);
-            phasors("a sample later", relay, before[0], before[1], before[2], before[3]);
+            due.phasors("a sample later", relay, before[0], before[1], before[2], before[3]);
             due.is("left then", 0, relay.phasor(4));
         });
     }
@@ -184,7 +170,7 @@ public final class SignalEdgesTest {
             relay.save(0);
             due.is("left", 7, relay.phasor(4));
             relay.pass(1);
-            phasors("4 of 10", relay, 400, 800, 1200, 1600);
+            due.phasors("4 of 10", relay, 400, 800, 1200, 1600);
         });
     }
 
@@ -217,21 +203,21 @@ public final class SignalEdgesTest {
         edges.test("THE NETWORK: the place 0 has nothing of the line, the place 1000 all of it", () -> {
             ZoneRelay relay = bare(10000, 2000, 0);
             relay.fault(0, 4000);
-            phasors("place 0", relay, 10000, 0, 2500, 0);
+            due.phasors("place 0", relay, 10000, 0, 2500, 0);
             relay.fault(1000, 4000);
-            phasors("place 1000", relay, 10000, 0, 1666, 0);
+            due.phasors("place 1000", relay, 10000, 0, 1666, 0);
             relay.fault(1000, 0);
-            phasors("place 1000, no resistance", relay, 10000, 0, 5000, 0);
+            due.phasors("place 1000, no resistance", relay, 10000, 0, 5000, 0);
             relay.network(2, 0, 2000);
             relay.fault(1000, 0);
-            phasors("place 1000, a reactance", relay, 10000, 0, 0, -5000);
+            due.phasors("place 1000, a reactance", relay, 10000, 0, 0, -5000);
             due.is("place 0, nothing at all", ZoneRelay.NOT_POSSIBLE, relay.fault(0, 0));
         });
         edges.test("THE NETWORK: rl * p / 1000 is truncated", () -> {
             ZoneRelay relay = bare(20000, 19999, 0);
             for (int place = 51; place <= 1000; place += 73) {
                 relay.fault(place, 0);
-                phasors("place " + place, relay, 20000, 0, 20000000 / (19999 * place / 1000), 0);
+                due.phasors("place " + place, relay, 20000, 0, 20000000 / (19999 * place / 1000), 0);
             }
             relay.network(2, 1, 0);
             due.is("999 / 1000", ZoneRelay.NOT_POSSIBLE, relay.fault(999, 0));
@@ -241,7 +227,7 @@ public final class SignalEdgesTest {
             ZoneRelay relay = bare(20000, 0, 19999);
             for (int place = 51; place <= 1000; place += 73) {
                 relay.fault(place, 0);
-                phasors("place " + place, relay, 20000, 0, 0, -20000000 / (19999 * place / 1000));
+                due.phasors("place " + place, relay, 20000, 0, 0, -20000000 / (19999 * place / 1000));
             }
             relay.network(2, 0, 1);
             due.is("999 / 1000", ZoneRelay.NOT_POSSIBLE, relay.fault(999, 0));
@@ -250,11 +236,11 @@ public final class SignalEdgesTest {
         edges.test("THE NETWORK: the resistance of a fault is from 0 to 20000, whole", () -> {
             ZoneRelay relay = bare(20000, 0, 0);
             relay.fault(0, 20000);
-            phasors("20000", relay, 20000, 0, 1000, 0);
+            due.phasors("20000", relay, 20000, 0, 1000, 0);
             relay.fault(1000, 19999);
-            phasors("19999", relay, 20000, 0, 1000, 0);
+            due.phasors("19999", relay, 20000, 0, 1000, 0);
             relay.fault(0, 10001);
-            phasors("10001", relay, 20000, 0, 1999, 0);
+            due.phasors("10001", relay, 20000, 0, 1999, 0);
         });
     }
 
@@ -262,34 +248,41 @@ public final class SignalEdgesTest {
         edges.test("THE NETWORK: the current is truncated toward 0, above 0 and below it", () -> {
             ZoneRelay relay = bare(1, 0, 3);
             relay.fault(1000, 0);
-            phasors("X = 3", relay, 1, 0, 0, -333);
+            due.phasors("X = 3", relay, 1, 0, 0, -333);
             relay.fault(0, 3);
-            phasors("R = 3", relay, 1, 0, 333, 0);
+            due.phasors("R = 3", relay, 1, 0, 333, 0);
             relay.network(2, 0, 2);
             relay.fault(1000, 1);
-            phasors("R = 1, X = 2", relay, 1, 0, 200, -400);
+            due.phasors("R = 1, X = 2", relay, 1, 0, 200, -400);
             relay.network(0, 2, 0);
             relay.network(2, 0, 20000);
             relay.fault(1000, 3);
-            phasors("R = 3, X = 20000: no whole ampere is left", relay, 2, 0, 0, 0);
+            due.phasors("R = 3, X = 20000: no whole ampere is left", relay, 2, 0, 0, 0);
         });
         edges.test("THE NETWORK: the voltage's second number is truncated toward 0, above 0 and below it", () -> {
             ZoneRelay relay = bare(1, 0, 1);
             relay.network(1, 1, 0);
             relay.fault(1000, 0);
             // R = X = 1, so the current is (500, -500), and 500 / 1000 of a volt is none
-            phasors("half a volt above 0", relay, 1, 0, 500, -500);
+            due.phasors("half a volt above 0", relay, 1, 0, 500, -500);
             relay.network(1, 0, 1);
             relay.network(2, 0, 0);
             relay.fault(0, 1);
-            phasors("half a volt below 0", relay, 1, 0, 500, -500);
+            due.phasors("half a volt below 0", relay, 1, 0, 500, -500);
             relay.network(0, 3, 0);
             relay.fault(0, 1);
-            phasors("one and a half below 0", relay, 2, -1, 1500, -1500);
+            due.phasors("one and a half below 0", relay, 2, -1, 1500, -1500);
             relay.network(1, 1, 0);
             relay.network(2, 0, 1);
             relay.fault(1000, 0);
-            phasors("one and a half above 0", relay, 2, 1, 1500, -1500);
+            due.phasors("one and a half above 0", relay, 2, 1, 1500, -1500);
+        });
+        edges.test("THE NETWORK: of the voltage the whole sum is divided, not each of its products", () -> {
+            ZoneRelay relay = bare(3, 0, 0);
+            relay.network(1, 1, 2);
+            relay.fault(0, 3);
+            // R = 4 and X = 2: 3 - (600 * 1 + 300 * 2) / 1000, and -(600 * 2 - 300 * 1) / 1000
+            due.phasors("1200 / 1000 and 900 / 1000", relay, 2, 0, 600, -300);
         });
         edges.test("THE NETWORK: the greatest voltage and impedances", () -> {
             ZoneRelay relay = new ZoneRelay();
@@ -299,10 +292,10 @@ public final class SignalEdgesTest {
             relay.network(3, 20000, 20000);
             relay.healthy();
             // R = X = 60000: 1.2e12 / 7.2e9 = 166
-            phasors("healthy", relay, 13360, 0, 166, -166);
+            due.phasors("healthy", relay, 13360, 0, 166, -166);
             relay.fault(1000, 20000);
             // R = 60000, X = 40000: D = 5.2e9, and 1.2e12 / D = 230, 8e11 / D = 153
-            phasors("fault", relay, 12340, -1540, 230, -153);
+            due.phasors("fault", relay, 12340, -1540, 230, -153);
         });
     }
 
@@ -317,7 +310,7 @@ public final class SignalEdgesTest {
             due.is("20020 is limited", 20000, relay.phasor(2));
             relay.fault(0, 1);
             due.is("20000000 is limited", 20000, relay.phasor(2));
-            phasors("nothing else is", relay, 20000, 0, 20000, 0);
+            due.phasors("nothing else is", relay, 20000, 0, 20000, 0);
         });
         edges.test("THE NETWORK: a current is limited to -20000", () -> {
             ZoneRelay relay = bare(20000, 0, 1000);
@@ -331,25 +324,25 @@ public final class SignalEdgesTest {
             due.is("-20020 is limited", -20000, relay.phasor(3));
             relay.network(2, 0, 1);
             relay.fault(1000, 0);
-            phasors("nothing else is", relay, 20000, 0, 0, -20000);
+            due.phasors("nothing else is", relay, 20000, 0, 0, -20000);
         });
         edges.test("THE NETWORK: the voltage is computed from the current before it is limited", () -> {
             ZoneRelay relay = bare(20000, 0, 0);
             relay.network(1, 999, 0);
             relay.fault(0, 0);
             // 20000 - 20020 * 999 / 1000; of 20000 amperes 20 volts would be left
-            phasors("a resistance", relay, 1, 0, 20000, 0);
+            due.phasors("a resistance", relay, 1, 0, 20000, 0);
             relay.network(1, 0, 999);
             relay.fault(0, 0);
-            phasors("a reactance", relay, 1, 0, 0, -20000);
+            due.phasors("a reactance", relay, 1, 0, 0, -20000);
             relay.network(1, 100, 0);
             relay.network(2, 0, 100);
             relay.fault(1000, 0);
             // the current is (100000, -100000): of each number 10000 volts
-            phasors("both", relay, 10000, 10000, 20000, -20000);
+            due.phasors("both", relay, 10000, 10000, 20000, -20000);
             relay.network(1, 0, 100);
             relay.fault(0, 100);
-            phasors("the other way", relay, 10000, -10000, 20000, -20000);
+            due.phasors("the other way", relay, 10000, -10000, 20000, -20000);
         });
         edges.test("THE NETWORK: voltages reach 20000 and 0, and go no farther", () -> {
             ZoneRelay relay = bare(20000, 0, 0);
@@ -371,10 +364,10 @@ public final class SignalEdgesTest {
         edges.test("9: the least and the greatest phasors stand as they are", () -> {
             ZoneRelay relay = new ZoneRelay();
             due.is("at the time 0", 0, relay.apply(-20000, 20000, 20000, -20000));
-            phasors("then", relay, -20000, 20000, 20000, -20000);
+            due.phasors("then", relay, -20000, 20000, 20000, -20000);
             relay.pass(5000);
             due.is("at the time 5000", 5000, relay.apply(20000, -20000, -20000, 20000));
-            phasors("then", relay, 20000, -20000, -20000, 20000);
+            due.phasors("then", relay, 20000, -20000, -20000, 20000);
         });
     }
 
@@ -391,7 +384,7 @@ public final class SignalEdgesTest {
             relay.pass(7);
             due.is("ramp of 2400", 7, relay.ramp(2400, -20000, 20000, -20000, 20000));
             due.is("left", 2400, relay.phasor(4));
-            phasors("the phasors stay until its first sample", relay, 1, 1, 1, 1);
+            due.phasors("the phasors stay until its first sample", relay, 1, 1, 1, 1);
         });
     }
 
@@ -441,17 +434,17 @@ public final class SignalEdgesTest {
             ZoneRelay relay = bare(1, 0, 0);
             due.is("nothing", ZoneRelay.NOT_POSSIBLE, relay.fault(0, 0));
             due.is("a resistance of 1", 0, relay.fault(0, 1));
-            phasors("then", relay, 1, 0, 1000, 0);
+            due.phasors("then", relay, 1, 0, 1000, 0);
             relay.network(2, 0, 1);
             due.is("a reactance of 1", 0, relay.fault(1000, 0));
-            phasors("then", relay, 1, 0, 0, -1000);
+            due.phasors("then", relay, 1, 0, 0, -1000);
             relay.network(2, 0, 0);
             relay.network(1, 1, 0);
             due.is("a source's resistance of 1", 0, relay.fault(0, 0));
-            phasors("then", relay, 0, 0, 1000, 0);
+            due.phasors("then", relay, 0, 0, 1000, 0);
             relay.network(1, 0, 1);
             due.is("a source's reactance of 1", 0, relay.fault(0, 0));
-            phasors("then", relay, 0, 0, 0, -1000);
+            due.phasors("then", relay, 0, 0, 0, -1000);
         });
     }
 
@@ -474,7 +467,7 @@ public final class SignalEdgesTest {
                     due.is("none", ZoneRelay.NOT_POSSIBLE, relay.healthy());
                     relay.network(part, r, 1 - r);
                     due.is("part " + part, 2, relay.healthy());
-                    phasors("part " + part, relay, part == 1 ? 0 : 7, 0, 7000 * r, -7000 * (1 - r));
+                    due.phasors("part " + part, relay, part == 1 ? 0 : 7, 0, 7000 * r, -7000 * (1 - r));
                 }
             }
         });
@@ -500,9 +493,9 @@ public final class SignalEdgesTest {
         edges.test("14: the least and the greatest numbers", () -> {
             ZoneRelay relay = new ZoneRelay();
             relay.apply(-20000, 20000, -20000, 20000);
-            phasors("then", relay, -20000, 20000, -20000, 20000);
+            due.phasors("then", relay, -20000, 20000, -20000, 20000);
             relay.apply(-2, -1, -6, -5);
-            phasors("numbers that look like codes", relay, -2, -1, -6, -5);
+            due.phasors("numbers that look like codes", relay, -2, -1, -6, -5);
         });
     }
 }

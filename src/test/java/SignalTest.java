@@ -17,20 +17,13 @@ public final class SignalTest {
         due.finish();
     }
 
-    private static void phasors(String what, ZoneRelay relay, long va, long vb, long ia, long ib) {
-        due.is(what + ": va", va, relay.phasor(0));
-        due.is(what + ": vb", vb, relay.phasor(1));
-        due.is(what + ": ia", ia, relay.phasor(2));
-        due.is(what + ": ib", ib, relay.phasor(3));
-    }
-
     private static void promise9Apply() {
         ZoneRelay relay = new ZoneRelay();
         due.is("apply at the time 0", 0, relay.apply(1, -2, 3, -4));
-        phasors("apply", relay, 1, -2, 3, -4);
+        due.phasors("apply", relay, 1, -2, 3, -4);
         relay.pass(7);
         due.is("apply at the time 7", 7, relay.apply(20000, -20000, -20000, 20000));
-        phasors("apply to the limits", relay, 20000, -20000, -20000, 20000);
+        due.phasors("apply to the limits", relay, 20000, -20000, -20000, 20000);
         for (int place = 0; place < 4; place++) {
             for (int wrong : new int[] {20001, -20001, Integer.MIN_VALUE, Integer.MAX_VALUE}) {
                 int[] n = new int[4];
@@ -38,7 +31,7 @@ public final class SignalTest {
                 due.is("apply with " + wrong, ZoneRelay.BAD_VALUE, relay.apply(n[0], n[1], n[2], n[3]));
             }
         }
-        phasors("an error changes nothing", relay, 20000, -20000, -20000, 20000);
+        due.phasors("an error changes nothing", relay, 20000, -20000, -20000, 20000);
     }
 
     private static void promise10Ramp() {
@@ -46,24 +39,24 @@ public final class SignalTest {
         relay.apply(0, 100, -100, 7);
         relay.pass(2);
         due.is("ramp", 2, relay.ramp(3, -10, 90, -90, 20000));
-        phasors("before its first sample", relay, 0, 100, -100, 7);
+        due.phasors("before its first sample", relay, 0, 100, -100, 7);
         due.is("left", 3, relay.phasor(4));
         relay.pass(1);
-        phasors("1 of 3", relay, -3, 97, -97, 6671);
+        due.phasors("1 of 3", relay, -3, 97, -97, 6671);
         due.is("left", 2, relay.phasor(4));
         relay.pass(1);
-        phasors("2 of 3", relay, -6, 94, -94, 13335);
+        due.phasors("2 of 3", relay, -6, 94, -94, 13335);
         relay.pass(1);
-        phasors("3 of 3", relay, -10, 90, -90, 20000);
+        due.phasors("3 of 3", relay, -10, 90, -90, 20000);
         due.is("left", 0, relay.phasor(4));
         relay.pass(5);
-        phasors("after it", relay, -10, 90, -90, 20000);
+        due.phasors("after it", relay, -10, 90, -90, 20000);
         relay.ramp(2400, -20000, 20000, 20000, -20000);
         relay.pass(2399);
-        phasors("almost", relay, -19991, 19991, 19991, -19983);
+        due.phasors("almost", relay, -19991, 19991, 19991, -19983);
         due.is("left", 1, relay.phasor(4));
         relay.pass(1);
-        phasors("there", relay, -20000, 20000, 20000, -20000);
+        due.phasors("there", relay, -20000, 20000, 20000, -20000);
     }
 
     private static void promise10Ends() {
@@ -73,13 +66,13 @@ public final class SignalTest {
         relay.ramp(10, 0, 0, 0, 1000);
         due.is("a ramp begins anew", 10, relay.phasor(4));
         relay.pass(1);
-        phasors("from the present phasors", relay, 450, 0, 0, 100);
+        due.phasors("from the present phasors", relay, 450, 0, 0, 100);
         due.is("an apply that fails", ZoneRelay.BAD_VALUE, relay.apply(0, 0, 0, 20001));
         due.is("leaves the ramp", 9, relay.phasor(4));
         relay.apply(5, 5, 5, 5);
         due.is("an apply ends it", 0, relay.phasor(4));
         relay.pass(3);
-        phasors("and it is gone", relay, 5, 5, 5, 5);
+        due.phasors("and it is gone", relay, 5, 5, 5, 5);
         relay.ramp(10, 0, 0, 0, 1000);
         relay.fault(0, 20001);
         due.is("a fault that fails leaves it", 10, relay.phasor(4));
@@ -91,9 +84,9 @@ public final class SignalTest {
         relay.healthy();
         due.is("healthy ends it", 0, relay.phasor(4));
         relay.ramp(1, 8, 9, 10, 11);
-        phasors("healthy stands until the sample", relay, 4891, -194, 203, -89);
+        due.phasors("healthy stands until the sample", relay, 4891, -194, 203, -89);
         relay.pass(1);
-        phasors("a ramp of one sample", relay, 8, 9, 10, 11);
+        due.phasors("a ramp of one sample", relay, 8, 9, 10, 11);
     }
 
     private static void promise10Errors() {
@@ -111,7 +104,7 @@ public final class SignalTest {
         }
         due.is("the ramp before stays", 6, relay.phasor(4));
         relay.pass(6);
-        phasors("and its targets", relay, 1, 1, 1, 1);
+        due.phasors("and its targets", relay, 1, 1, 1, 1);
     }
 
     private static void promise11Network() {
@@ -137,7 +130,7 @@ public final class SignalTest {
         due.is("part -1", ZoneRelay.BAD_VALUE, relay.network(-1, 1, 0));
         due.is("part 4", ZoneRelay.BAD_VALUE, relay.network(4, 1, 0));
         due.is("E stays", 1, relay.count(3));
-        phasors("the phasors stay", relay, 1, 2, 3, 4);
+        due.phasors("the phasors stay", relay, 1, 2, 3, 4);
     }
 
     private static void promise12Fault() {
@@ -146,23 +139,23 @@ public final class SignalTest {
         relay.network(2, 0, 4000);
         relay.pass(3);
         due.is("fault(500, 0)", 3, relay.fault(500, 0));
-        phasors("a fault in the middle", relay, 6667, 0, 0, -3333);
+        due.phasors("a fault in the middle", relay, 6667, 0, 0, -3333);
         // R = 3 + 7 + 1 = 11, X = 2 + 5 = 7, D = 170, with 9 * 777 / 1000 = 6, 7 * 777 / 1000 = 5, and E = 13
         relay.network(0, 13, 0);
         relay.network(1, 3, 2);
         relay.network(2, 9, 7);
         relay.fault(777, 2);
-        phasors("truncated at each step", relay, 10, 0, 841, -535);
+        due.phasors("truncated at each step", relay, 10, 0, 841, -535);
         relay.network(2, 20000, 20000);
         due.is("fault(1000, 20000)", 3, relay.fault(1000, 20000));
         // R = 40003, X = 20002, D = 2000320013: no current is left of 13 volts
-        phasors("a far one", relay, 13, 0, 0, 0);
+        due.phasors("a far one", relay, 13, 0, 0, 0);
         // the place is truncated, the resistance is not: 3 * 500 / 1000 = 1
         relay.network(0, 10000, 0);
         relay.network(1, 0, 10000);
         relay.network(2, 3, 0);
         relay.fault(500, 9999);
-        phasors("R = X = 10000", relay, 5000, -5000, 500, -500);
+        due.phasors("R = X = 10000", relay, 5000, -5000, 500, -500);
     }
 
     private static void promise12Places() {
@@ -173,14 +166,14 @@ public final class SignalTest {
             alongR.network(2, 19999, 0);
             alongR.fault(place, 3);
             int current = 20000000 / (1000 + 19999 * place / 1000 + 3);
-            phasors("R at " + place, alongR, 20000 - current * 1000 / 1000, 0, current, 0);
+            due.phasors("R at " + place, alongR, 20000 - current * 1000 / 1000, 0, current, 0);
             ZoneRelay alongX = new ZoneRelay();
             alongX.network(0, 20000, 0);
             alongX.network(1, 0, 1000);
             alongX.network(2, 0, 19999);
             alongX.fault(place, 0);
             current = 20000000 / (1000 + 19999 * place / 1000);
-            phasors("X at " + place, alongX, 20000 - current * 1000 / 1000, 0, 0, -current);
+            due.phasors("X at " + place, alongX, 20000 - current * 1000 / 1000, 0, 0, -current);
         }
     }
 
@@ -189,15 +182,15 @@ public final class SignalTest {
         relay.network(1, 0, 1);
         relay.network(2, 0, 0);
         relay.fault(0, 0);
-        phasors("the voltage is made of the whole current", relay, 0, 0, 0, -20000);
+        due.phasors("the voltage is made of the whole current", relay, 0, 0, 0, -20000);
         relay.network(1, 1, 0);
         relay.fault(0, 0);
-        phasors("the other way", relay, 0, 0, 20000, 0);
+        due.phasors("the other way", relay, 0, 0, 20000, 0);
         // D = 400010000, and 20000 - (400 + 19980000) / 1000, and -(80000 - 99900) / 1000
         relay.network(0, 20000, 0);
         relay.network(1, 100, 20000);
         relay.fault(0, 0);
-        phasors("a bolted fault", relay, 20, 19, 4, -999);
+        due.phasors("a bolted fault", relay, 20, 19, 4, -999);
     }
 
     private static void promise12Errors() {
@@ -210,7 +203,7 @@ public final class SignalTest {
         relay.network(1, 0, 0);
         due.is("a wrong value comes before no phasors", ZoneRelay.BAD_VALUE, relay.fault(0, 20001));
         due.is("no phasors", ZoneRelay.NOT_POSSIBLE, relay.fault(0, 0));
-        phasors("an error changes nothing", relay, 1, 2, 3, 4);
+        due.phasors("an error changes nothing", relay, 1, 2, 3, 4);
         due.is("a resistance is enough", 0, relay.fault(0, 1));
         relay.network(2, 0, 1);
         due.is("999 mille of a milliohm are none", ZoneRelay.NOT_POSSIBLE, relay.fault(999, 0));
@@ -221,18 +214,18 @@ public final class SignalTest {
         ZoneRelay relay = new ZoneRelay();
         relay.pass(2);
         due.is("healthy()", 2, relay.healthy());
-        phasors("healthy", relay, 9782, -389, 407, -178);
+        due.phasors("healthy", relay, 9782, -389, 407, -178);
         relay.network(1, 0, 0);
         relay.network(2, 0, 0);
         relay.network(3, 0, 0);
         due.is("healthy() without an impedance", ZoneRelay.NOT_POSSIBLE, relay.healthy());
-        phasors("an error changes nothing", relay, 9782, -389, 407, -178);
+        due.phasors("an error changes nothing", relay, 9782, -389, 407, -178);
         relay.network(3, 0, 1);
         due.is("healthy() with a bit of it", 2, relay.healthy());
-        phasors("limited", relay, 10000, 0, 0, -20000);
+        due.phasors("limited", relay, 10000, 0, 0, -20000);
         relay.network(2, 0, 19999);
         relay.healthy();
-        phasors("the whole line counts", relay, 10000, 0, 0, -500);
+        due.phasors("the whole line counts", relay, 10000, 0, 0, -500);
     }
 
     private static void promise14Phasor() {
@@ -246,6 +239,6 @@ public final class SignalTest {
         due.is("less of it", 400, relay.phasor(4));
         relay.pass(5000);
         due.is("none of it", 0, relay.phasor(4));
-        phasors("at its end", relay, 1, 1, 1, 1);
+        due.phasors("at its end", relay, 1, 1, 1, 1);
     }
 }

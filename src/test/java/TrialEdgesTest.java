@@ -202,12 +202,14 @@ public final class TrialEdgesTest {
             due.is("reach", NONE, relay.reach(2, 1000));
         });
         edges.test("22: NONE if the place 0 has no phasors, though all others are covered", () -> {
-            ZoneRelay relay = plainLine();
-            Shapes.box(relay, 2, -20000, -1, 20000, 1);
-            due.is("the place 0", ZoneRelay.NOT_POSSIBLE, relay.covers(0, 0));
-            due.is("the place 1", 4, relay.covers(1, 0));
-            due.is("reach", NONE, relay.reach(2, 0));
-            due.is("with a resistance of 1", 1000, relay.reach(2, 1));
+            for (int zone = 0; zone < 3; zone++) {
+                ZoneRelay relay = plainLine();
+                Shapes.box(relay, zone, -20000, -1, 20000, 1);
+                due.is("the place 0", ZoneRelay.NOT_POSSIBLE, relay.covers(0, 0));
+                due.is("the place 1", 1 << zone, relay.covers(1, 0));
+                due.is("reach of the zone " + zone, NONE, relay.reach(zone, 0));
+                due.is("with a resistance of 1", 1000, relay.reach(zone, 1));
+            }
         });
         edges.test("22: a gap ends it, though places beyond the gap are covered", () -> {
             ZoneRelay relay = plainLine();
@@ -357,11 +359,17 @@ public final class TrialEdgesTest {
                 due.holds("what 0", relay.test(200, 0, 60, 0) > 3);
             }
         });
-        edges.test("23: a ramp of the relay has no part in it", () -> {
+        edges.test("23: the phasors that there were, and a ramp, have no part in it", () -> {
             ZoneRelay relay = alwaysPickedUp();
-            relay.ramp(2400, 20000, 20000, 1, 1);
+            relay.ramp(1, 0, 0, 0, 0);
+            testIs(relay, 48, 9, 0, 2);
             testIs(relay, 49, 9, 1, 2);
-            due.is("the ramp stays", 2400, relay.phasor(4));
+            due.is("the ramp stays", 1, relay.phasor(4));
+            relay.apply(0, 0, 0, 0);
+            relay.pass(24);
+            due.is("no impedance", 0, relay.measure(7));
+            testIs(relay, 40, 9, 0, 2);
+            due.is("no impedance still", 0, relay.measure(7));
         });
     }
 
